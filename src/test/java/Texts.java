@@ -1,0 +1,23 @@
+/** The text that most tests load. */
+final class Texts {
+    /** a 0, e 1, ac 2, do 3, ce 4, st 5, aa 6, ab 7, ec 8. */
+    static final String SIGNS = "base a 10 12 5 4;base e 8 11 4 3;mark ac 10 above 4 2 2;mark do 10 above 2 3 1;"
+            + "mark ce 5 below 3 3 1;mark st 1 through 6 1 3;pair aa a ac;pair ab aa ce spare;pair ec e ce;";
+
+    static final String LINES = "line a do ce ac e ec;line e st ce;line;line ac aa ab st;hand 1;";
+
+    private Texts() {
+    }
+
+    static MarkStacks usual() {
+        return Check.loaded(SIGNS + LINES);
+    }
+
+    static MarkStacks with(String line) {
+        return Check.loaded(SIGNS + "line " + line + ";");
+    }
+
+    static String times(int count, String text) {
+        return text.repeat(count);
+    }
+}
