@@ -225,7 +225,7 @@ public final class LinesTest {
 
     /** Whether marks of i and of the next i overlap, of which the second one is moved by the width of i. */
     private void clash(String line, int due) {
-        MarkStacks marks = Check.loaded("base i 4 5 2 2;base j 4 1 2 2;mark z 9 above 5 4 2;mark u 1 above 4 2 2;mark w 2 above 5 2 2;mark t 3 through 6 9 3;"
+        MarkStacks marks = Check.loaded("base i 4 5 2 2;base j 4 1 2 2;mark z 9 above 5 4 2;mark k 10 above 5 2 9;mark u 1 above 4 2 2;mark w 2 above 5 2 2;mark t 3 through 6 9 3;"
                 + "mark b 4 below 4 1 2;mark c 5 below 5 1 3;mark v 6 above 4 2 0;mark x 7 above 2 2 0;"
                 + "mark y 8 above 2 2 1;line " + line + ";");
         check.due("19: clashes(0, 0) of " + line, due, () -> Check.bit(marks.clashes(0, 0)));
@@ -250,6 +250,9 @@ public final class LinesTest {
         // v ends where x begins, y begins one place ahead; the upper edge of z is the lower one of w.
         clash("i v i x", 0);
         clash("i v i y", 1);
+        // k stands so far ahead of its base that it ends where v begins.
+        clash("i v i k", 0);
+        clash("i y i k", 1);
         clash("i w j z", 0);
         clash("i w j z z", 1);
         clash("w w i w", 0);

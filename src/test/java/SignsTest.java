@@ -21,6 +21,8 @@ public final class SignsTest {
             int asked = what;
             check.due("5: size(" + what + ")", due[what], () -> marks.size(asked));
         }
+        marks.setSpare(7, false);
+        check.due("5: no spare ones", 0, () -> marks.size(4));
         check.due("5: size(7)", Check.NO_ELEMENT, () -> marks.size(7));
         check.due("5: size(-1)", Check.NO_ELEMENT, () -> marks.size(-1));
         check.due("5: size of the least number", Check.NO_ELEMENT, () -> marks.size(Integer.MIN_VALUE));
