@@ -85,10 +85,12 @@ final class Check {
         return marks.query(text.length());
     }
 
+    /** An object that has had another text before, so that a test finds what an earlier text leaves behind. */
     static MarkStacks loaded(String text) {
         MarkStacks marks = new MarkStacks();
+        int before = load(marks, Texts.EARLIER);
         int signs = load(marks, text);
-        if (signs < 0) {
+        if (before != 40 || signs < 0) {
             throw new IllegalStateException("the text of a test has an error: " + text);
         }
         return marks;

@@ -75,17 +75,17 @@ public final class LinesTest {
 
     private void forms() {
         MarkStacks marks = Texts.usual();
-        row(marks, 0, 0, "a +do +ce +ac e *ec");
-        row(marks, 0, 1, "a +ce +do +ac e e +ce");
-        row(marks, 0, 2, "a +ce +do +ac e *ec");
-        row(marks, 1, 1, "e +st +ce");
-        row(marks, 1, 2, "*ec +st");
-        row(marks, 2, 0, "");
-        row(marks, 2, 1, "");
-        row(marks, 2, 2, "");
-        row(marks, 3, 0, "+ac *aa *ab +st");
-        row(marks, 3, 1, "+ac a +ac a +st +ce +ac");
-        row(marks, 3, 2, "+ac *aa *aa +st +ce");
+        row(Texts.usual(), 0, 0, "a +do +ce +ac e *ec");
+        row(Texts.usual(), 0, 1, "a +ce +do +ac e e +ce");
+        row(Texts.usual(), 0, 2, "a +ce +do +ac e *ec");
+        row(Texts.usual(), 1, 1, "e +st +ce");
+        row(Texts.usual(), 1, 2, "*ec +st");
+        row(Texts.usual(), 2, 0, "");
+        row(Texts.usual(), 2, 1, "");
+        row(Texts.usual(), 2, 2, "");
+        row(Texts.usual(), 3, 0, "+ac *aa *ab +st");
+        row(Texts.usual(), 3, 1, "+ac a +ac a +st +ce +ac");
+        row(Texts.usual(), 3, 2, "+ac *aa *aa +st +ce");
         check.due("13: at(0, 3, 0)", Check.NO_ELEMENT, () -> marks.at(0, 3, 0));
         check.due("13: at(0, -1, 0)", Check.NO_ELEMENT, () -> marks.at(0, -1, 0));
         check.due("13: at(4, 0, 0)", Check.NO_ELEMENT, () -> marks.at(4, 0, 0));
